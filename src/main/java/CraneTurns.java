@@ -39,7 +39,7 @@ public final class CraneTurns {
 
     public CraneTurns() {
         yard = new Yard();
-        planner = new Planner(yard);
+        planner = new Planner();
     }
 
     public void track(int cranes, int gap, int speed, int lift)
@@ -177,7 +177,7 @@ public final class CraneTurns {
         if (yard.countFree() > MOST_PLANNED) {
             throw new UnsupportedOperationException("more than four free jobs");
         }
-        return planner.search(seconds);
+        return planner.search(yard, seconds);
     }
 
     public int planned(int k) throws IndexOutOfBoundsException {
@@ -497,7 +497,6 @@ public final class CraneTurns {
 
     /** Tries all ways to give the free jobs, and keeps the first of those that end soonest. */
     private static final class Planner {
-        private final Yard yard;
         private final Yard trial = new Yard();
         private final boolean[] inWay = new boolean[MOST_JOBS];
         private final int[] wayJobs = new int[MOST_PLANNED];
@@ -508,16 +507,12 @@ public final class CraneTurns {
         private int bestSeconds;
         private int limit;
 
-        Planner(Yard yard) {
-            this.yard = yard;
-        }
-
-        int search(int seconds) {
+        int search(Yard yard, int seconds) {
             givings = Math.min(yard.countFree(), MOST_PLANNED);
             bestCount = 0;
             bestSeconds = NONE;
             limit = seconds;
-            extendWay(0);
+            extendWay(yard, 0);
             return bestSeconds;
         }
 
@@ -525,9 +520,9 @@ public final class CraneTurns {
             return within(k, 0, bestCount - 1) ? best[k] : NONE;
         }
 
-        private void extendWay(int depth) {
+        private void extendWay(Yard yard, int depth) {
             if (depth >= givings) {
-                tryWay();
+                tryWay(yard);
                 return;
             }
             for (int j = 0; j < yard.jobCount; j++) {
@@ -539,7 +534,7 @@ public final class CraneTurns {
                     if (yard.cranes[c].reaches(yard.jobs[j]) && !isTriedAlready(depth, j, c)) {
                         wayJobs[depth] = j;
                         wayCranes[depth] = c;
-                        extendWay(depth + 1);
+                        extendWay(yard, depth + 1);
                     }
                 }
                 inWay[j] = false;
@@ -554,7 +549,7 @@ public final class CraneTurns {
             return depth > 0 && wayCranes[depth - 1] != crane && wayJobs[depth - 1] > job;
         }
 
-        private void tryWay() {
+        private void tryWay(Yard yard) {
             trial.copyOf(yard);
             for (int i = 0; i < givings; i++) {
                 trial.hand(wayJobs[i], wayCranes[i]);

@@ -506,6 +506,13 @@ public final class PromisesTest {
         y.give(0, 1);
         y.run(3);
         duePlaces("a goal at the gap needs no way", y, 20, 45);
+        CraneTurns z = made(2, 10, 7, 1);
+        z.crane(1, 60, 0, 200);
+        z.crane(0, 25, 0, 200);
+        z.job(30, 30, 0);
+        z.give(0, 1);
+        z.run(2);
+        duePlaces("not farther than it must", z, 20, 46);
     }
 
     private static void givesWayToTheLowerNeighbourFirst() {
@@ -757,6 +764,11 @@ public final class PromisesTest {
         x.give(1, 0);
         x.run(4);
         dueInt("all are done", 0, () -> x.plan(300));
+        CraneTurns y = made(1, 1, 5, 5);
+        y.job(0, 0, 0);
+        y.give(0, 0);
+        y.run(2);
+        dueInt("amid the lifting", 8, () -> y.plan(300));
     }
 
     private static void planWithBrokenCrane() {
@@ -802,6 +814,21 @@ public final class PromisesTest {
         dueInt("next", 10, () -> z.planned(1));
         dueInt("next", 21, () -> z.planned(2));
         dueInt("last", 30, () -> z.planned(3));
+        CraneTurns v = made(2, 10, 5, 1);
+        v.crane(1, 30, 0, 200);
+        v.job(18, 18, 0);
+        dueInt("a second less is less", 5, () -> v.plan(300));
+        dueInt("the upper crane", 1, () -> v.planned(0));
+        CraneTurns w = made(3, 10, 5, 1);
+        w.crane(2, 100, 0, 200);
+        w.crane(1, 50, 0, 200);
+        w.job(100, 100, 0);
+        w.job(50, 50, 0);
+        w.job(0, 0, 0);
+        dueInt("one each", 2, () -> w.plan(300));
+        dueInt("job 0 to crane 2", 2, () -> w.planned(0));
+        dueInt("job 1 to crane 1", 11, () -> w.planned(1));
+        dueInt("job 2 to crane 0", 20, () -> w.planned(2));
     }
 
     private static void planOrderOfOneCrane() {
