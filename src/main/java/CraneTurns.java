@@ -391,23 +391,23 @@ public final class CraneTurns {
             if (crane.atHand == NONE) {
                 takeFirst(crane);
             }
-            switch (crane.does) {
-                case LIFTING:
-                    liftOn(crane);
-                    return WORK;
-                case SETTING:
-                    setOn(crane);
-                    return WORK;
-                case TO_JOB:
-                case WITH_JOB:
-                    int before = crane.place;
-                    moveToward(c, crane.goal);
-                    handleIfThere(crane);
-                    return crane.place == before ? BLOCKED : WORK;
-                default:
-                    moveToward(c, placeOutOfTheWay(c));
-                    return IDLE;
+            if (!within(crane.atHand, 0, jobCount - 1)) {
+                moveToward(c, placeOutOfTheWay(c));
+                return IDLE;
             }
+            Job job = jobs[crane.atHand];
+            if (crane.does == LIFTING) {
+                liftOn(crane, job);
+                return WORK;
+            }
+            if (crane.does == SETTING) {
+                setOn(crane, job);
+                return WORK;
+            }
+            int before = crane.place;
+            moveToward(c, crane.goal);
+            handleIfThere(crane);
+            return crane.place == before ? BLOCKED : WORK;
         }
 
         /** Only the first one: a later job never overtakes one that is not ready. */
@@ -416,7 +416,7 @@ public final class CraneTurns {
                 return;
             }
             int first = crane.waiting[0];
-            if (clock < jobs[first].ready) {
+            if (!within(first, 0, jobCount - 1) || clock < jobs[first].ready) {
                 return;
             }
             crane.unqueue(first);
@@ -434,20 +434,20 @@ public final class CraneTurns {
             }
         }
 
-        private void liftOn(Crane crane) {
+        private void liftOn(Crane crane, Job job) {
             crane.toGo--;
             if (crane.toGo == 0) {
-                crane.goal = jobs[crane.atHand].to;
+                crane.goal = job.to;
                 crane.does = WITH_JOB;
                 handleIfThere(crane);
             }
         }
 
-        private void setOn(Crane crane) {
+        private void setOn(Crane crane, Job job) {
             crane.toGo--;
             if (crane.toGo == 0) {
-                jobs[crane.atHand].stands = DONE;
-                jobs[crane.atHand].doneAt = clock + 1;
+                job.stands = DONE;
+                job.doneAt = clock + 1;
                 openJobs--;
                 crane.atHand = NONE;
                 crane.does = NOTHING;
