@@ -266,6 +266,39 @@ public final class PlanEdgesTest extends Edges {
             x.run(1);
             due("all done", 0, undone(x));
         });
+        edge("Promise 12: on a copy: a job from a place to another one", () -> {
+            CraneTurns x = made(1, 1, 5, 1);
+            x.job(10, 30, 0);
+            due("plan", 8, x.plan(8));
+            due("one less", -1, x.plan(7));
+        });
+        edge("Promise 12: on a copy: amid a job, in each of its seconds", () -> {
+            CraneTurns x = made(1, 1, 5, 3);
+            x.job(5, 12, 0);
+            x.give(0, 0);
+            for (int left = 9; left > 0; left--) {
+                due("seconds left", left, x.plan(300));
+                x.run(1);
+            }
+            due("none left", 0, x.plan(300));
+        });
+        edge("Promise 12: on a copy: a neighbour gives way within its reach, up", () -> {
+            for (int high = 24; high <= 25; high++) {
+                CraneTurns x = made(2, 10, 5, 1);
+                x.crane(1, 20, 20, high);
+                x.job(15, 15, 0);
+                due("up to " + high, high == 25 ? 5 : -1, x.plan(300));
+            }
+        });
+        edge("Promise 12: on a copy: a neighbour gives way within its reach, down", () -> {
+            for (int low = 25; low <= 26; low++) {
+                CraneTurns x = made(2, 10, 5, 1);
+                x.crane(1, 60, 0, 200);
+                x.crane(0, 30, low, 30);
+                x.job(35, 35, 0);
+                due("down to " + low, low == 25 ? 7 : -1, x.plan(300));
+            }
+        });
     }
 
     /** The recipe has made the same plan already, so the call may not change anything at all. */
@@ -362,6 +395,27 @@ public final class PlanEdgesTest extends Edges {
                 due("four by one", 8, x.plan(300));
                 givings("four by one", x, crane, 10 + crane, 20 + crane, 30 + crane);
             }
+        });
+        edge("Promise 12: all ways to give all free jobs: each order by one of two cranes", () -> {
+            CraneTurns x = made(2, 10, 5, 1);
+            x.crane(1, 200, 0, 200);
+            x.job(80, 80, 0);
+            x.job(40, 40, 0);
+            x.job(120, 120, 0);
+            x.job(160, 160, 0);
+            due("two each", 20, x.plan(300));
+            givings("toward each other", x, 10, 0, 31, 21);
+            x.broken(1, true);
+            due("four by one", 40, x.plan(300));
+            givings("the way up", x, 10, 0, 20, 30);
+        });
+        edge("Promise 12: all free jobs: each of them once", () -> {
+            CraneTurns x = made(2, 10, 5, 1);
+            x.crane(1, 100, 0, 200);
+            x.job(50, 50, 0);
+            x.job(200, 200, 0);
+            due("the far one too", 22, x.plan(300));
+            givings("one each", x, 0, 11);
         });
         edge("Promise 12: behind those that are given already", () -> {
             CraneTurns x = made(1, 1, 5, 1);
