@@ -268,9 +268,9 @@ public final class PlanEdgesTest extends Edges {
         });
         edge("Promise 12: on a copy: a job from a place to another one", () -> {
             CraneTurns x = made(1, 1, 5, 1);
-            x.job(10, 30, 0);
-            due("plan", 8, x.plan(8));
-            due("one less", -1, x.plan(7));
+            x.job(30, 10, 0);
+            due("plan", 12, x.plan(12));
+            due("one less", -1, x.plan(11));
         });
         edge("Promise 12: on a copy: amid a job, in each of its seconds", () -> {
             CraneTurns x = made(1, 1, 5, 3);
@@ -412,7 +412,7 @@ public final class PlanEdgesTest extends Edges {
         edge("Promise 12: all free jobs: each of them once", () -> {
             CraneTurns x = made(2, 10, 5, 1);
             x.crane(1, 100, 0, 200);
-            x.job(50, 50, 0);
+            x.job(10, 10, 0);
             x.job(200, 200, 0);
             due("the far one too", 22, x.plan(300));
             givings("one each", x, 0, 11);
